@@ -611,6 +611,8 @@ public final class NeedleHouse {
             joins = new int[TIMES];
             finals = new int[TIMES];
             kept = new int[TIMES];
+            Arrays.fill(joins, LOST);
+            Arrays.fill(finals, LOST);
             Arrays.fill(kept, LOST);
             settledNear = NONE;
         }
@@ -631,14 +633,16 @@ public final class NeedleHouse {
             if (settledNear == near) {
                 return;
             }
+            // rows never grow shorter: behind the longer one all stays LOST
+            int many = Math.min(times(), TIMES);
             int ahead = LOST;
-            for (int time = 0; time < joins.length; time++) {
+            for (int time = 0; time < many; time++) {
                 ahead = join(row0.reading(time), row1.reading(time), ahead, near);
                 joins[time] = ahead;
             }
             takePoints();
             pieces.lay();
-            for (int time = 0; time < finals.length; time++) {
+            for (int time = 0; time < many; time++) {
                 finals[time] = together(joinedAt(time), time);
             }
             settledNear = near;

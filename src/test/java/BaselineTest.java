@@ -11,6 +11,7 @@ public final class BaselineTest {
         noPoints();
         flatPieces();
         slopes();
+        slopeJustBeside0();
         slopeInLowestTerms();
         middleOfTheLines();
         pieceAfterPiece();
@@ -163,6 +164,22 @@ public final class BaselineTest {
         Check.due("at TIME 300", LOST, house.baseline(0, 300));
         Check.due("at TIME -1", LOST, house.baseline(0, -1));
         Check.due("at the least TIME", LOST, house.baseline(0, Integer.MIN_VALUE));
+    }
+
+    private static void slopeJustBeside0() {
+        for (int way = -1; way <= 1; way += 2) {
+            NeedleHouse house = zeros(40);
+            house.end(1);
+            Check.mean(house, 0, 0, 0);
+            Check.mean(house, 0, 29, 3 * way);
+            Check.due("1 by 29: upper", way, house.piece(0, 0, 2));
+            Check.due("1 by 29: lower", 29, house.piece(0, 0, 3));
+            Check.mean(house, 0, 30, 50);
+            Check.due("one POINT alone behind it", 2, house.pieces(0));
+            Check.due("its slope: upper", 0, house.piece(0, 1, 2));
+            Check.due("its slope: lower", 1, house.piece(0, 1, 3));
+            Check.due("its height", 50, house.baseline(0, 39));
+        }
     }
 
     private static void slopeInLowestTerms() {

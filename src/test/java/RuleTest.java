@@ -9,6 +9,7 @@ public final class RuleTest {
         goodTexts();
         whatTheClausesTell();
         theLastOneCounts();
+        whatCountsWithout();
         wrongPlaces();
         wrongNumbers();
         tooMany();
@@ -106,12 +107,32 @@ public final class RuleTest {
         Check.due("the last share", 20, house.range(0, 1));
     }
 
+    private static void whatCountsWithout() {
+        NeedleHouse house = new NeedleHouse();
+        Check.row(house, 0, 0, 0, 1, 2, 3, 5, LOST, LOST, LOST, LOST, LOST, 0, 1, 2, 3);
+        Check.mean(house, 0, 0, 0);
+        for (String text : new String[] {"", "window 3;share 3 of 7;index 4;near 2;limit 7;storm 1;"}) {
+            Check.rule(house, text);
+            Check.rule(house, "near 1;");
+            Check.due("share 1 of 2", 5, house.range(0, 0));
+            Check.due("index 5 10 ..", 1, house.index(0));
+            Check.due("window 10", 1, house.count(1));
+        }
+        house.lost(0, 0, 5);
+        Check.due("window 10", 1, house.count(1));
+        house.lost(0, 0, 1);
+        Check.due("window 10", 2, house.count(1));
+        Check.due("share 1 of 2", -1, house.range(0, 1));
+    }
+
     private static void wrongPlaces() {
         bad(";", 1, 0);
         bad("5", 1, 0);
         bad(" ;", 1, 1);
         bad("limits 5;", 1, 0);
         bad("lim", 1, 0);
+        bad("timit 5;", 1, 0);
+        bad("limid 5;", 1, 0);
         bad("Limit 5;", 1, 0);
         bad("liMit 5;", 1, 0);
         bad("of 5;", 1, 0);

@@ -138,6 +138,9 @@ public final class WindowsTest {
         house.read(0, 0, 2);
         Check.due("a STORM at the end", 9, house.storm(2, 0));
         Check.due("a STORM at the end", 2, house.storm(2, 1));
+        NeedleHouse first = houseOf("window 2;index 1 2;storm 2;", 0, 2, 0, 2, 0, 0);
+        Check.due("a STORM from WINDOW 0 on", 0, first.storm(0, 0));
+        Check.due("a STORM from WINDOW 0 on", 2, first.storm(0, 1));
         NeedleHouse without = houseOf("window 2;", 0, 70, 0, 69, 0, 70, 0, 70);
         Check.due("storm 5 without a RULE for it", 2, without.storm(0, 0));
     }
