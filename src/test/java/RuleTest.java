@@ -46,6 +46,14 @@ public final class RuleTest {
         Check.due("the first 7 bytes", 1, house.rule(7));
         Check.due("the TAPE is empty", 0, house.count(4));
         Check.dueArgument("rule(1)", () -> house.rule(1));
+        for (int n : new int[] {3, 4, 5, 6}) {
+            Check.feed(house, "near 12;near 2;".getBytes());
+            Check.due("what stands behind the first " + n + " is not read", -9, house.rule(n));
+            Check.due("the place of that FAULT", n == 3 ? 0 : n, house.fault());
+        }
+        Check.feed(house, "index 1 9;".getBytes());
+        Check.due("what stands behind the first 7 is not read", -9, house.rule(7));
+        Check.due("the place of that FAULT", 7, house.fault());
         Check.feed(house, "bad".getBytes());
         Check.due("a FAULT", -9, house.rule(3));
         Check.due("the TAPE is empty then too", 0, house.count(4));
