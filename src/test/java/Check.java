@@ -12,15 +12,30 @@ final class Check {
 
     private static int wrong = 0;
     private static int asked = 0;
+    private static String sentence = "";
 
     private Check() {
+    }
+
+    /** The sentence of the document that is tested from here on: told with each answer that is wrong. */
+    static void sentence(String words) {
+        sentence = "[" + words + "] ";
     }
 
     static void due(String what, long want, long got) {
         asked++;
         if (got != want) {
             wrong++;
-            System.out.println(what + " answered " + got + ", due is " + want);
+            System.out.println(sentence + what + " answered " + got + ", due is " + want);
+        }
+    }
+
+    /** Answers or the names of exceptions, as Twins has them. */
+    static void alike(String what, String want, String got) {
+        asked++;
+        if (!got.equals(want)) {
+            wrong++;
+            System.out.println(sentence + what + ": " + got + ", due is " + want);
         }
     }
 
@@ -44,7 +59,7 @@ final class Check {
             got = "threw " + e;
         }
         wrong++;
-        System.out.println(what + " " + got + ", due is " + want.getSimpleName());
+        System.out.println(sentence + what + " " + got + ", due is " + want.getSimpleName());
     }
 
     /** To be called last: the process ends with 1 if an answer was wrong. */

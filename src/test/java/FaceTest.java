@@ -22,8 +22,12 @@ public final class FaceTest {
         "piece 3 " + INDEX + " " + ARGUMENT, "baseline 2 " + INDEX, "value 2 " + INDEX, "feed 5",
         "rule 1 " + ARGUMENT, "fault 0", "train 2 " + ARGUMENT, "range 2 " + INDEX, "index 1",
         "storm 2 " + ARGUMENT, "quiet 1", "publish 0", "changed 2 " + INDEX, "published 2 " + INDEX, "count 1"};
-    private static final String[] FORBIDDEN = {"catch", "finally", "synchronized", "assert", "Exact(", "->", "::",
-        "System.out", "System.nano", "System.current", "Random", "Thread", "hashCode", "Object", "static {"};
+    // patterns, each of something that a rule of LANGUAGE.md rules out wherever it stands
+    private static final String[] FORBIDDEN = {"\\bfinally\\b", "\\bsynchronized\\b", "\\bassert\\b", "Exact\\(", "::",
+        "\\)\\s*->", "\\bgetMessage\\b", "\\bSystem\\.(?!arraycopy\\b)", "\\bRandom\\b", "\\bThread\\b", "\\bhashCode\\b",
+        "\\bObject\\b", "\\bstatic\\s*\\{"};
+    private static final Set<String> IMPORTS = Set.of("java.util.Arrays", "java.util.ArrayList", "java.util.List",
+        "java.util.Iterator", "java.util.NoSuchElementException");
 
     public static void main(String[] args) throws IOException {
         constants();
@@ -79,7 +83,8 @@ public final class FaceTest {
             holds(one + " has at most twenty fields", Arrays.stream(one.getDeclaredFields())
                     .filter(field -> !Modifier.isStatic(field.getModifiers())).count() <= 20);
             for (Method method : one.getDeclaredMethods()) {
-                holds(method + " has a name of its own", !names.contains(method.getName()));
+                holds(method + " has a name of its own", !Modifier.isPrivate(method.getModifiers())
+                        || !names.contains(method.getName()));
                 holds(method + " takes at most seven", method.getParameterCount() <= 7);
             }
         }
@@ -89,11 +94,11 @@ public final class FaceTest {
         String text = Files.readString(Path.of("src/main/java/NeedleHouse.java"));
         String code = text.replaceAll("(?s)/\\*.*?\\*/", "").replaceAll("//[^\n]*", "");
         for (String word : FORBIDDEN) {
-            holds("no " + word, !code.contains(word));
+            holds("no " + word, !Pattern.compile(word).matcher(code).find());
         }
         Matcher imports = Pattern.compile("import ([^;]*);").matcher(code);
         while (imports.find()) {
-            holds("import " + imports.group(1), imports.group(1).equals("java.util.Arrays"));
+            holds("import " + imports.group(1), IMPORTS.contains(imports.group(1)));
         }
         int start = 0;
         String[] lines = text.split("\n");
