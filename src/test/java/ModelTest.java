@@ -3,7 +3,7 @@ import java.util.Arrays;
 import java.util.Deque;
 import java.util.Random;
 
-/** Runs of 512 random calls, the same ones each time, whose answers must be those of the Model. */
+/** Runs of up to 512 random calls, the same ones each time, whose answers must be those of the Model. */
 public final class ModelTest {
     private static final int RUNS = 400;
     private static final int LINE_RUNS = 100;
@@ -19,6 +19,8 @@ public final class ModelTest {
     private final int steep;
     private final int wrongs;
     private int nextMeasure = 0;
+    // of the house, those that feed a text too: what comes behind the 512th is free
+    private int calls = 0;
 
     private ModelTest(long seed) {
         random = new Random(seed);
@@ -38,13 +40,14 @@ public final class ModelTest {
 
     private void go(int run) {
         int mostlyReadings = 60 + random.nextInt(300);
-        for (int i = 0; i < CALLS; i++) {
+        for (int i = 0; calls < CALLS; i++) {
             int kind = i < mostlyReadings && random.nextInt(10) < 8 ? random.nextInt(12) : random.nextInt(46);
             int[] call = call(kind);
             String shown = Arrays.toString(call);
             latest.add(shown);
             String want = answer(call, false);
             String got = answer(call, true);
+            calls++;
             if (!want.equals(got)) {
                 Check.due("run " + run + ", call " + i + " " + shown + " got " + got + " for " + want, 0, 1);
                 System.out.println(String.join(" ", latest));
@@ -197,6 +200,11 @@ public final class ModelTest {
     /** Feeds a text to both and answers the call that takes it. */
     private int[] rule() {
         byte[] text = text().getBytes(java.nio.charset.StandardCharsets.ISO_8859_1);
+        int feeds = (text.length + 19) / 20;
+        if (calls + feeds >= CALLS) {
+            return new int[] {15};
+        }
+        calls += feeds;
         Check.feed(house, text);
         for (int from = 0; from < text.length; from += 20) {
             byte[] bytes = Arrays.copyOf(Arrays.copyOfRange(text, from, Math.min(text.length, from + 20)), 20);
