@@ -73,20 +73,21 @@ public final class FaceTest {
     private static void nestedClasses() {
         Class<?>[] nested = NeedleHouse.class.getDeclaredClasses();
         holds("at most twelve classes", nested.length < 12);
-        Set<String> names = new TreeSet<>();
-        for (String line : FACE) {
-            names.add(line.substring(0, line.indexOf(' ')));
-        }
+        sizes(NeedleHouse.class);
         for (Class<?> one : nested) {
             holds(one + " is static and not public", Modifier.isStatic(one.getModifiers())
                     && !Modifier.isPublic(one.getModifiers()) && !Modifier.isProtected(one.getModifiers()));
-            holds(one + " has at most twenty fields", Arrays.stream(one.getDeclaredFields())
-                    .filter(field -> !Modifier.isStatic(field.getModifiers())).count() <= 20);
-            for (Method method : one.getDeclaredMethods()) {
-                holds(method + " has a name of its own", !Modifier.isPrivate(method.getModifiers())
-                        || !names.contains(method.getName()));
-                holds(method + " takes at most seven", method.getParameterCount() <= 7);
-            }
+            sizes(one);
+        }
+    }
+
+    private static void sizes(Class<?> one) {
+        holds(one + " has at most twenty fields", Arrays.stream(one.getDeclaredFields())
+                .filter(field -> !Modifier.isStatic(field.getModifiers())).count() <= 20);
+        for (Method method : one.getDeclaredMethods()) {
+            boolean ofFace = Arrays.stream(FACE).anyMatch(line -> line.startsWith(method.getName() + " "));
+            holds(method + " has a name of its own", !Modifier.isPrivate(method.getModifiers()) || !ofFace);
+            holds(method + " takes at most seven", method.getParameterCount() <= 7);
         }
     }
 
